@@ -38,6 +38,7 @@ public final class Promise02ProcessTest {
     private static void noNumberComesAgain(Checks c) {
         ExecutiveDesk x = Checks.desk(1);
         c.due("the only thread ends", 0, x.exit());
+        c.due("its process has ended", ExecutiveDesk.REFUSED, x.thread(0, 1));
         c.due("a new process has a new number", 1, x.process(0));
         x.process(0);
         x.process(0);

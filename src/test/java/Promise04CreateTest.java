@@ -124,6 +124,12 @@ public final class Promise04CreateTest {
         c.due("without rules", 0, x.object(1, 7));
         c.due("without a name", -1, x.object(1, 1));
         x.close(1);
+        x.create(2, 1, -1);
+        x.close(1);
+        x.create(2, 0, -1);
+        c.due("nobody has it", -1, x.object(1, 5));
+        c.due("not at all", 0, x.object(1, 4));
+        x.close(1);
         x.create(4, 0, -1);
         x.set(1, 2);
         x.close(1);

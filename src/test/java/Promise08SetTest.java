@@ -132,6 +132,8 @@ public final class Promise08SetTest {
         x.tick(1);
         c.due("signaled", 1, x.object(0, 4));
         c.due("no more due", 0, x.object(0, 5));
+        x.tick(1);
+        c.due("nor later", 0, x.object(0, 5));
         c.due("it stays when it is taken", 0, x.await(0, -1, -1, 0, 0));
         c.due("signaled still", 1, x.object(0, 4));
         c.due("set anew, was signaled", 1, x.set(0, 99));

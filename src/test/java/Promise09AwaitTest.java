@@ -155,6 +155,7 @@ public final class Promise09AwaitTest {
             x.tick(9);
         }
         c.due("it waits still", 2, x.actor(0, 0));
+        c.due("without end still", -1, x.actor(0, 8));
         x.set(1, 1);
         c.due("one of two", 2, x.actor(0, 0));
         c.due("the gate is not taken", 1, x.object(1, 4));

@@ -6,6 +6,7 @@ public final class Promise11LevelTest {
         satisfiedBeforeItIsAlerted(c);
         byNumbers(c);
         noLookMeanwhile(c);
+        onlyWhoIsDue(c);
         c.end();
     }
 
@@ -83,6 +84,26 @@ public final class Promise11LevelTest {
         c.due("then thread 1", 1, x.count(0));
         x.exit();
         c.due("then thread 2", 2, x.count(0));
+    }
+
+    private static void onlyWhoIsDue(Checks c) {
+        ExecutiveDesk x = Checks.desk(7, 6, 5, 4, 3, 2, 1, 0);
+        x.create(0, 0, 0);
+        x.await(0, -1, -1, 2, -1);
+        x.await(0, -1, -1, 0, -1);
+        for (int t = 2; t < 7; t++) {
+            x.await(0, -1, -1, 3, -1);
+        }
+        x.level(1);
+        x.call(1, 1);
+        x.call(6, 1);
+        x.call(7, 1);
+        x.level(0);
+        c.due("no calls: thread 0 waits on", 2, x.actor(0, 0));
+        c.due("it may not be alerted: thread 1 waits on", 2, x.actor(1, 0));
+        c.due("thread 6 was alerted", ExecutiveDesk.ALERTED, x.actor(6, 3));
+        c.due("thread 6 runs", 6, x.count(0));
+        c.due("thread 7 did not wait", 1, x.actor(7, 4));
     }
 
     private static void noLookMeanwhile(Checks c) {

@@ -60,5 +60,9 @@ public final class Promise14CancelTest {
         c.due("its wait was satisfied", 0, x.actor(0, 3));
         x.level(1);
         c.due("at level 1 too", 0, x.cancel(0));
+        for (int i = 1; i < 8; i++) {
+            x.transfer(0, 0, 1, -1);
+        }
+        c.due("transfer 7", 1, x.cancel(7));
     }
 }

@@ -9,6 +9,7 @@ public final class Promise16TickTest {
         quantumOfOneThatIsPutOff(c);
         quantumAtLevelOne(c);
         beginsToRunInATick(c);
+        allEightWait(c);
         c.end();
     }
 
@@ -148,6 +149,31 @@ public final class Promise16TickTest {
         x.tick(3);
         c.due("time goes on", ExecutiveDesk.TIMEOUT, x.actor(2, 3));
         c.due("thread 0 runs", 0, x.count(0));
+    }
+
+    private static void allEightWait(Checks c) {
+        ExecutiveDesk x = Checks.desk(0, 1, 2, 3, 4, 5, 6, 7);
+        x.create(4, 0, -1);
+        x.set(0, 3);
+        for (int t = 0; t < 8; t++) {
+            x.await(0, -1, -1, 0, 4);
+        }
+        c.due("nobody runs", -1, x.count(0));
+        c.due("eight pointers", 8, x.object(0, 3));
+        x.tick(3);
+        for (int t = 0; t < 8; t++) {
+            c.due("the timer was due for thread " + t, 0, x.actor(t, 3));
+            c.due("thread " + t, t == 7 ? 0 : 1, x.actor(t, 0));
+        }
+        x.set(0, 0);
+        for (int t = 0; t < 8; t++) {
+            x.await(0, -1, -1, 0, 2);
+        }
+        x.tick(2);
+        for (int t = 0; t < 8; t++) {
+            c.due("the time was over for thread " + t, ExecutiveDesk.TIMEOUT, x.actor(t, 3));
+        }
+        c.due("no pointers", 0, x.object(0, 3));
     }
 
     private static void beginsToRunInATick(Checks c) {

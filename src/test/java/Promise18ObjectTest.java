@@ -52,7 +52,23 @@ public final class Promise18ObjectTest {
         all(c, x, 2, 2, -1, 1, 0, 0, -1, 1, 0);
         x.close(2);
         c.due("it is gone", ExecutiveDesk.REFUSED, x.object(2, 0));
+        allSixteen(c);
         c.end();
+    }
+
+    private static void allSixteen(Checks c) {
+        ExecutiveDesk x = new ExecutiveDesk();
+        for (int p = 0; p < 2; p++) {
+            x.process(0);
+            x.thread(p, p);
+            for (int h = 0; h < 8; h++) {
+                x.create(3, h, 8 * p + h);
+            }
+        }
+        for (int o = 0; o < 16; o++) {
+            all(c, x, o, 3, o, 1, 0, o % 8, 0, 0, 0);
+        }
+        c.due("no object 16", ExecutiveDesk.REFUSED, x.object(16, 0));
     }
 
     private static void all(Checks c, ExecutiveDesk x, int o, int... want) {

@@ -33,8 +33,16 @@ public final class Promise19IoTest {
         x.interrupt(1, false);
         x.interrupt(1, false);
         all(c, x, 0, ExecutiveDesk.BROKEN, 0, 0, 1, 64, 0, 1);
+        for (int i = 0; i < 8; i++) {
+            x.transfer(1, 0, i + 1, -1);
+            all(c, x, i, ExecutiveDesk.PENDING, 0, 0, 1, i + 1, 0, 0);
+        }
+        c.due("no transfer 8", ExecutiveDesk.REFUSED, x.io(8, 0));
+        for (int i = 0; i < 8; i++) {
+            x.interrupt(1, true);
+        }
         x.close(1);
-        all(c, x, 0, ExecutiveDesk.BROKEN, 0, 0, 1, 64, 0, 1);
+        all(c, x, 7, ExecutiveDesk.WELL, 8, 0, 1, 8, 0, 0);
         c.end();
     }
 

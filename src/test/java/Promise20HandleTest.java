@@ -38,6 +38,13 @@ public final class Promise20HandleTest {
         x.open(2, 2);
         c.due("used again", 2, x.handle(0, 1, 0));
         c.due("with new rights", 2, x.handle(0, 1, 1));
+        x.process(0);
+        x.process(0);
+        x.thread(3, 7);
+        x.create(0, 0, -1);
+        c.due("of process 3", 1, x.handle(3, 0, 0));
+        c.due("no process 4", ExecutiveDesk.REFUSED, x.handle(4, 0, 0));
+        c.due("no process 5", ExecutiveDesk.REFUSED, x.handle(5, 0, 0));
         c.end();
     }
 }
