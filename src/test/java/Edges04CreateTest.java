@@ -8,6 +8,7 @@ public final class Edges04CreateTest {
         e.needsAThread(x -> x.create(6, 0, -1));
         theLeastFreeHandle(e);
         theLeastNumberThatIsFree(e);
+        aNumberThatComesAgain(e);
         allRights(e);
         whatAMeans(e);
         refusedIfTypeIsNot0To5(e);
@@ -70,6 +71,47 @@ public final class Edges04CreateTest {
         e.due("the least of two", 2, x.handle(0, 2, 0));
         x.create(0, 0, -1);
         e.due("then the other one", 6, x.handle(0, 6, 0));
+    }
+
+    private static void aNumberThatComesAgain(Edges e) {
+        e.sentence("A THREAD makes an OBJECT");
+        for (int type = 0; type <= 5; type++) {
+            for (int before = 0; before <= 5; before++) {
+                isNew(e, type, before, usedUp(before, false));
+                isNew(e, type, before, usedUp(before, true));
+            }
+        }
+    }
+
+    private static void isNew(Edges e, int type, int before, ExecutiveDesk x) {
+        e.due("type " + before + " is gone", 0, x.count(5));
+        x.create(type, 0, -1);
+        int[] want = {type, -1, 1, 0, 0, type == 2 || type == 5 ? -1 : 0, 0, 0};
+        for (int what = 0; what <= 7; what++) {
+            e.due("type " + type + " behind " + before + ", what " + what, want[what], x.object(0, what));
+        }
+        x.tick(9);
+        e.due("type " + type + " behind " + before + ", later", 0, x.object(0, 4));
+    }
+
+    /**
+     * Object 0 was of this type, had a name, four rules and all that its type can have, and is gone; its
+     * maker may have ended before.
+     */
+    private static ExecutiveDesk usedUp(int type, boolean makerHasEnded) {
+        ExecutiveDesk x = Checks.desk(3, 2);
+        x.create(type, MOST[type], 7);
+        for (int n = 0; n < 4; n++) {
+            x.rule(0, 0, 0, 7);
+        }
+        x.set(0, 5);
+        x.transfer(0, 0, 9, -1);
+        x.interrupt(0, true);
+        if (makerHasEnded) {
+            x.exit();
+        }
+        x.close(0);
+        return x;
     }
 
     private static void allRights(Edges e) {

@@ -182,6 +182,11 @@ public final class Edges18ObjectTest {
         e.due("not any more", 0, y.object(0, 5));
         y.tick(1);
         e.due("nor later", 0, y.object(0, 5));
+        y.set(0, 5);
+        y.set(0, 0);
+        e.due("stopped", 0, y.object(0, 5));
+        y.tick(1);
+        e.due("stopped, and later", 0, y.object(0, 5));
         e.sentence("DEVICE: the first TRANSFER of its row, -1 if none");
         ExecutiveDesk z = first(5, 0);
         e.due("none", -1, z.object(0, 5));

@@ -7,8 +7,10 @@ public final class EdgesTermsTest {
         theFrontOfItsRow(e);
         theBackOfItsRow(e);
         onceOnly(e);
+        behindEachCall(e);
         whileTheLevelIs1(e);
         inTheOrderInWhichTheyBegan(e);
+        ifTheWaitCanBeSatisfied(e);
         aGateLetsOneThrough(e);
         aNoteLetsAllThrough(e);
         aCountLetsAsManyThrough(e);
@@ -36,7 +38,10 @@ public final class EdgesTermsTest {
         for (int first = 0; first <= 7; first++) {
             for (int second = 0; second <= 7; second++) {
                 int runs = second > first ? 1 : 0;
-                e.due(first + ", then " + second, runs, Checks.desk(first, second).count(0));
+                ExecutiveDesk x = Checks.desk(first, second);
+                e.due(first + ", then " + second, runs, x.count(0));
+                e.due(first + ", then " + second + ": it is running", 0, x.actor(runs, 0));
+                e.due(first + ", then " + second + ": the other one is ready", 1, x.actor(1 - runs, 0));
             }
         }
     }
@@ -74,6 +79,34 @@ public final class EdgesTermsTest {
         x.set(0, 1);
         e.due("six became ready, one began to run", before + 1, x.count(7));
         e.due("the greatest", 6, x.count(0));
+    }
+
+    /**
+     * Thread 0 waits for note 0 and may be alerted; thread 1, of a less priority, runs. Handle 1 is a device
+     * with a filter; its transfers 0 and 1 are to set the note.
+     */
+    private static ExecutiveDesk oneThatWaits() {
+        ExecutiveDesk x = Checks.desk(3, 2);
+        x.create(0, 0, -1);
+        x.create(5, 1, -1);
+        x.transfer(1, 0, 9, 0);
+        x.transfer(1, 0, 9, 0);
+        x.await(0, -1, -1, 2, 5);
+        return x;
+    }
+
+    private static void behindEachCall(Edges e) {
+        e.sentence("Who RUNS is looked at when all else that a call brings about is done");
+        e.taken("it waits", 1, EdgesTermsTest::oneThatWaits, x -> x.count(0));
+        e.taken("set", 0, EdgesTermsTest::oneThatWaits, x -> x.set(0, 1) + x.count(0));
+        e.taken("call", 0, EdgesTermsTest::oneThatWaits, x -> x.call(0, 1) + x.count(0));
+        e.taken("interrupt", 1, EdgesTermsTest::oneThatWaits, x -> x.interrupt(1, true) + x.count(0));
+        e.taken("transfer", 2, EdgesTermsTest::oneThatWaits, x -> x.transfer(1, 0, 65, 0) + x.count(0));
+        e.taken("cancel", 1, EdgesTermsTest::oneThatWaits, x -> x.cancel(1) + x.count(0));
+        e.taken("tick", 5, EdgesTermsTest::oneThatWaits, x -> x.tick(5) + x.count(0));
+        e.taken("thread", 4, EdgesTermsTest::oneThatWaits, x -> x.thread(0, 7) + x.count(0));
+        e.taken("exit", 0, EdgesTermsTest::oneThatWaits, x -> x.exit() + x.count(0));
+        e.taken("await", ExecutiveDesk.WAITING - 1, EdgesTermsTest::oneThatWaits, x -> x.await(0, -1, -1, 0, 1) + x.count(0));
     }
 
     private static void whileTheLevelIs1(Edges e) {
@@ -132,6 +165,22 @@ public final class EdgesTermsTest {
         y.set(0, 1);
         e.due("who began anew stands behind", 2, y.actor(0, 0));
         e.due("who began before is the first", 0, y.actor(1, 3));
+    }
+
+    private static void ifTheWaitCanBeSatisfied(Edges e) {
+        e.sentence("if the wait can be satisfied, it is: what it needs is TAKEN, its RESULT is told, the THREAD is READY");
+        ExecutiveDesk x = Checks.desk(5, 4, 3, 2);
+        x.create(1, 0, -1);
+        x.create(1, 0, -1);
+        x.await(0, 1, -1, 1, -1);
+        x.await(1, -1, -1, 0, -1);
+        x.await(0, -1, -1, 0, -1);
+        x.set(0, 1);
+        e.due("the first one needs more: it waits", 2, x.actor(0, 0));
+        e.due("the second one needs another one: it waits", 2, x.actor(1, 0));
+        e.due("the third one has what it needs", 0, x.actor(2, 3));
+        e.due("it runs", 2, x.count(0));
+        e.due("what it needed is taken", 0, x.object(0, 4));
     }
 
     private static void aGateLetsOneThrough(Edges e) {
