@@ -50,6 +50,7 @@ public final class Edges03ThreadTest {
         for (int made = 0; made <= 4; made++) {
             int n = made;
             e.inside("p of " + n + ":", 0, n - 1, () -> withProcesses(n), (x, p) -> x.thread(p, 3), p -> 0);
+            e.inside("the process it has, of " + n + ":", 0, n - 1, () -> withProcesses(n), (x, p) -> x.thread(p, 3) + x.actor(0, 1), p -> p);
             e.outside("p of " + n + ":", 0, n - 1, () -> withProcesses(n), (x, p) -> x.thread(p, 3));
         }
     }

@@ -81,6 +81,19 @@ public final class Edges07RuleTest {
         e.inside("group", 0, 7, () -> withRules(0), (x, group) -> x.rule(0, 1, group, 1), group -> 1);
         e.each("its group is allowed:", 0, 7, group -> openedBehind(1, group, 7, 7), group -> 1);
         e.outside("group", 0, 7, () -> withRules(1), (x, group) -> x.rule(0, 1, group, 1));
+        for (int group = 0; group <= 7; group++) {
+            e.due("one that is in group " + group + " alone", 0, openedByAnother(1 << group, group));
+            e.due("one that is in all but group " + group, ExecutiveDesk.DENIED, openedByAnother(255 - (1 << group), group));
+        }
+    }
+
+    /** Opens the object in another process, of these groups, behind a rule that allows it to one group. */
+    private static int openedByAnother(int groups, int group) {
+        ExecutiveDesk x = withRules(0);
+        x.rule(0, 1, group, 7);
+        x.process(groups);
+        x.thread(1, 1);
+        return x.open(0, 7);
     }
 
     private static void refusedIfRightsAreNot1To7(Edges e) {

@@ -9,6 +9,7 @@ public final class Edges08SetTest {
         mutant(e);
         timer(e);
         whenATimerIsDue(e);
+        whoWaitsForIt(e);
         refusedIfHIsNoHandle(e);
         refusedIfItIsADevice(e);
         refusedIfNIsNotAsSaid(e);
@@ -143,6 +144,39 @@ public final class Edges08SetTest {
             x.tick(9);
         }
         e.due("0: not", 0, x.object(0, 4));
+        e.due("0: nor due", 0, x.object(0, 5));
+    }
+
+    /** Thread 0 waits for an object of this type, which is not signaled; thread 1, of a less priority, runs. */
+    private static ExecutiveDesk awaited(int type) {
+        ExecutiveDesk x = first(type, 0);
+        x.await(0, -1, -1, 0, -1);
+        return x;
+    }
+
+    private static void whoWaitsForIt(Edges e) {
+        e.sentence("RELEASING, whenever an OBJECT becomes SIGNALED");
+        for (int type = 0; type <= 1; type++) {
+            ExecutiveDesk x = awaited(type);
+            x.set(0, 0);
+            e.due("type " + type + " with 0: it waits", 2, x.actor(0, 0));
+            x.set(0, 1);
+            e.due("type " + type + " with 1: its result", 0, x.actor(0, 3));
+            e.due("type " + type + " with 1: it runs", 0, x.count(0));
+            e.due("type " + type + " with 1: a gate is taken", 1 - type, x.object(0, 4));
+        }
+        for (int n = 1; n <= 9; n++) {
+            ExecutiveDesk x = awaited(3);
+            e.due("a count of none, and " + n, 0, x.set(0, n));
+            e.due("its result", 0, x.actor(0, 3));
+            e.due("it runs", 0, x.count(0));
+            e.due("it took one of " + n, n - 1, x.object(0, 4));
+        }
+        ExecutiveDesk x = awaited(4);
+        x.set(0, 1);
+        e.due("a timer that is due: it waits", 2, x.actor(0, 0));
+        x.set(0, 0);
+        e.due("a timer that is not: it waits", 2, x.actor(0, 0));
     }
 
     private static void refusedIfHIsNoHandle(Edges e) {

@@ -15,6 +15,7 @@ public final class Edges09AwaitTest {
         refusedIfH2OrH3IsNeitherThatNorMinus1(e);
         refusedIfOneIsOfADevice(e);
         refusedIfTwoNameTheSameObject(e);
+        everyOtherTypeAtEveryPlace(e);
         waitIsNeeded(e);
         any(e);
         all(e);
@@ -111,6 +112,7 @@ public final class Edges09AwaitTest {
             x.tick(9);
         }
         e.due("-1: it waits still", 2, x.actor(0, 0));
+        e.due("-1: without end still", -1, x.actor(0, 8));
     }
 
     private static void refusedIfH1IsNoHandle(Edges e) {
@@ -178,6 +180,20 @@ public final class Edges09AwaitTest {
         e.refused("h1 and h3, two handles", ExecutiveDesk.REFUSED, () -> gates(7), x -> x.await(0, 1, 4, 0, 0));
         e.refused("h2 and h3, two handles", ExecutiveDesk.REFUSED, () -> gates(7), x -> x.await(2, 4, 0, 0, 0));
         e.taken("three objects", 0, () -> gates(7), x -> x.await(4, 6, 2, 1, 0));
+    }
+
+    private static void everyOtherTypeAtEveryPlace(Edges e) {
+        e.sentence("one is of a DEVICE");
+        for (int type = 0; type <= 4; type++) {
+            for (int place = 0; place < 3; place++) {
+                ExecutiveDesk x = Checks.desk(3);
+                for (int h = 0; h < 3; h++) {
+                    x.create(h == place ? type : 0, 0, -1);
+                }
+                int want = type == 2 ? place : ExecutiveDesk.TIMEOUT;
+                e.due("type " + type + " at place " + place + " is none", want, x.await(0, 1, 2, 0, 0));
+            }
+        }
     }
 
     private static void waitIsNeeded(Edges e) {
@@ -324,6 +340,20 @@ public final class Edges09AwaitTest {
                 e.due("the next one runs", 1, y.count(0));
             }
         }
+        ExecutiveDesk again = gates(0);
+        again.await(0, -1, -1, 0, 1);
+        again.tick(1);
+        again.await(0, -1, -1, 0, -1);
+        e.due("it waits again: its result", ExecutiveDesk.WAITING, again.actor(0, 3));
+        again.set(0, 1);
+        e.due("it is satisfied later: its result", 0, again.actor(0, 3));
+        ExecutiveDesk both = Checks.desk(3, 2, 1);
+        both.create(1, 0, -1);
+        both.await(0, -1, -1, 0, -1);
+        both.await(0, -1, -1, 0, -1);
+        both.set(0, 1);
+        e.due("who began first is the first", 0, both.actor(0, 3));
+        e.due("who began later waits", 2, both.actor(1, 0));
         e.sentence("(Who begins to wait has used none, too.)");
         ExecutiveDesk x = gates(0);
         x.tick(2);

@@ -62,6 +62,7 @@ public final class Edges10CallTest {
         ExecutiveDesk x = oneThatWaits(2, 0);
         x.call(0, 99);
         e.due("ALERTED", ExecutiveDesk.ALERTED, x.actor(0, 3));
+        e.due("it runs", 0, x.count(0));
         e.due("it does not wait any more", 1, x.call(0, 98));
         e.due("one was delivered", 1, x.actor(0, 5));
     }

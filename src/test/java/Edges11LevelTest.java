@@ -64,6 +64,7 @@ public final class Edges11LevelTest {
         x.level(0);
         e.due("none waits", 0, x.count(6));
         e.due("eight are over", 8, x.count(8));
+        e.due("no pointer is left", 0, x.object(0, 3) + x.object(1, 3));
         for (int i = 0; i < 4; i++) {
             int how = i % 2 == 0 ? ExecutiveDesk.WELL : ExecutiveDesk.BROKEN;
             e.due("transfer " + i, how, x.io(i, 0));

@@ -50,6 +50,15 @@ public final class Edges12InterruptTest {
         e.due("it is pending", ExecutiveDesk.PENDING, x.io(1, 0));
         x.level(0);
         e.due("when that becomes 0", 2, x.count(8));
+        ExecutiveDesk y = withTransfers(0, 8);
+        y.level(1);
+        for (int i = 0; i < 8; i++) {
+            y.interrupt(0, i % 3 == 0);
+        }
+        y.level(0);
+        for (int i = 0; i < 8; i++) {
+            e.due("each well or not, in order: " + i, i % 3 == 0 ? ExecutiveDesk.WELL : ExecutiveDesk.BROKEN, y.io(i, 0));
+        }
     }
 
     private static void ifThereIsNoneNothingHappens(Edges e) {
@@ -126,6 +135,12 @@ public final class Edges12InterruptTest {
             e.due("of " + n + ": it was the last", 0, x.object(0, 5));
             x.interrupt(0, false);
             e.due("of " + n + ": once only", ExecutiveDesk.BROKEN, x.io(0, 0));
+        }
+        for (int layers = 0; layers < 8; layers++) {
+            ExecutiveDesk x = withTransfers(layers, 1);
+            x.interrupt(0, false);
+            int how = (layers & 5) == 5 ? ExecutiveDesk.PENDING : ExecutiveDesk.BROKEN;
+            e.due("layers " + layers, how, x.io(0, 0));
         }
         ExecutiveDesk x = withTransfers(5, 1);
         x.interrupt(0, false);
@@ -219,9 +234,12 @@ public final class Edges12InterruptTest {
         e.sentence("NOBODY (if a THREAD makes it)");
         ExecutiveDesk x = withTransfers(0, 1);
         x.create(0, 0, -1);
+        x.transfer(0, 0, 9, 1);
         x.await(1, -1, -1, 0, -1);
         e.due("nobody runs", -1, x.count(0));
         e.due("an interrupt", 1, x.interrupt(0, true));
         e.due("it is over", 1, x.count(8));
+        e.due("the next one", 1, x.interrupt(0, true));
+        e.due("who waited for it runs", 0, x.count(0));
     }
 }

@@ -249,6 +249,12 @@ public final class Edges13TransferTest {
         x.transfer(0, 0, 65, -1);
         e.due("it has none: the note", 0, x.object(1, 4));
         e.due("it has none: the gate", 0, x.object(2, 4));
+        ExecutiveDesk y = device(1);
+        y.thread(0, 2);
+        y.await(1, -1, -1, 0, -1);
+        e.due("thread 1 runs", 1, y.count(0));
+        y.transfer(0, 0, 65, 1);
+        e.due("who waited for it runs", 0, y.count(0));
     }
 
     private static void pointersWhileItIsPending(Edges e) {

@@ -93,6 +93,12 @@ public final class Edges14CancelTest {
         y.transfer(0, 0, 9, -1);
         y.cancel(1);
         e.due("one without an object to set", 0, y.object(1, 4));
+        ExecutiveDesk z = withTransfers(2);
+        z.thread(0, 2);
+        z.await(1, -1, -1, 0, -1);
+        e.due("thread 1 runs", 1, z.count(0));
+        z.cancel(1);
+        e.due("who waited for it runs", 0, z.count(0));
     }
 
     private static void refusedIfItIsNotPending(Edges e) {
