@@ -9,6 +9,7 @@ public final class Edges09AwaitTest {
         e.needsAThread(x -> x.await(-1, -2, 8, 4, 100));
         high(e);
         refusedIfHowIsNot0To3(e);
+        anyOrAllAndAlertedOrNot(e);
         refusedIfTimeoutIsNotFromMinus1To99(e);
         howLongAWaitLasts(e);
         refusedIfH1IsNoHandle(e);
@@ -80,6 +81,24 @@ public final class Edges09AwaitTest {
         e.inside("how", 0, 3, () -> gates(7), (x, how) -> x.await(0, 1, 2, how, 0), how -> 0);
         e.outside("how", 0, 3, () -> gates(7), (x, how) -> x.await(0, 1, 2, how, 0));
         e.outside("how of one with calls", 0, 3, () -> withCalls(7, 1), (x, how) -> x.await(0, 1, 2, how, 0));
+    }
+
+    private static void anyOrAllAndAlertedOrNot(Edges e) {
+        e.sentence("how 0 ANY, 1 ALL, and 2 more if it may be ALERTED");
+        int[] oneOfTwo = {0, ExecutiveDesk.TIMEOUT, 0, ExecutiveDesk.TIMEOUT};
+        int[] withACall = {0, ExecutiveDesk.TIMEOUT, ExecutiveDesk.ALERTED, ExecutiveDesk.ALERTED};
+        e.each("one of two, how", 0, 3, how -> gates(1).await(0, 1, -1, how, 0), how -> oneOfTwo[how]);
+        e.each("one of two and a call, how", 0, 3, how -> withCalls(1, 1).await(0, 1, -1, how, 0), how -> withACall[how]);
+        for (int how = 0; how <= 3; how++) {
+            ExecutiveDesk x = gates(0);
+            x.await(0, 1, -1, how, -1);
+            x.set(1, 1);
+            e.due("one of two while it waits, how " + how, how % 2 == 0 ? 1 : ExecutiveDesk.WAITING, x.actor(0, 3));
+            ExecutiveDesk y = gates(0);
+            y.await(0, 1, -1, how, -1);
+            y.call(0, 1);
+            e.due("a call while it waits, how " + how, how >= 2 ? ExecutiveDesk.ALERTED : ExecutiveDesk.WAITING, y.actor(0, 3));
+        }
     }
 
     private static void refusedIfTimeoutIsNotFromMinus1To99(Edges e) {

@@ -4,6 +4,7 @@ public final class Edges14CancelTest {
         Edges e = new Edges("Edges14CancelTest");
         e.needsAThread(x -> x.cancel(1));
         e.needsAThread(x -> x.cancel(-1));
+        itsAnswer(e);
         theFirstOfItsRow(e);
         notTheFirst(e);
         whatStandsInTheRowBehindIt(e);
@@ -22,6 +23,17 @@ public final class Edges14CancelTest {
             x.transfer(0, 0, 9, 1);
         }
         return x;
+    }
+
+    private static void itsAnswer(Edges e) {
+        e.sentence("A THREAD CANCELS TRANSFER i: 1 if it is over by that, 0 if it is to be CANCELLED");
+        for (int i = 0; i < 8; i++) {
+            ExecutiveDesk x = withTransfers(8);
+            int answer = x.cancel(i);
+            e.due("transfer " + i, i == 0 ? 0 : 1, answer);
+            e.due("over by that: " + i, answer == 1 ? ExecutiveDesk.CANCELLED : ExecutiveDesk.PENDING, x.io(i, 0));
+            e.due("to be cancelled: " + i, 1 - answer, x.io(i, 5));
+        }
     }
 
     private static void theFirstOfItsRow(Edges e) {

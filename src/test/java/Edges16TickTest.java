@@ -10,6 +10,7 @@ public final class Edges16TickTest {
         waitsWhoseTimeIsOverThen(e);
         waitsByThreads(e);
         timersBeforeWaits(e);
+        thenWhoRunsIsLookedAt(e);
         aQuantumOf3(e);
         ifAnotherOneOfItsPriorityIsReady(e);
         theThreadThatRanBeforeTheTick(e);
@@ -158,6 +159,19 @@ public final class Edges16TickTest {
             x.await(0, -1, -1, 0, 2);
             x.tick(3);
             e.due("due in " + due + ", waits for 2", due <= 2 ? 0 : ExecutiveDesk.TIMEOUT, x.actor(0, 3));
+        }
+    }
+
+    private static void thenWhoRunsIsLookedAt(Edges e) {
+        e.sentence("then who RUNS is looked at");
+        for (int timeout = 1; timeout <= 9; timeout++) {
+            ExecutiveDesk x = Checks.desk(3, 5);
+            x.create(0, 0, -1);
+            x.await(0, -1, -1, 0, timeout);
+            x.tick(9);
+            e.due("in tick " + timeout + " of nine", 1, x.count(0));
+            e.due("it has used what is left of nine behind " + timeout, (9 - timeout) % 3, x.actor(1, 7));
+            e.due("the other one had used what was before " + timeout, (timeout - 1) % 3, x.actor(0, 7));
         }
     }
 

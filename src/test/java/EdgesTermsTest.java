@@ -2,6 +2,9 @@
 public final class EdgesTermsTest {
     public static void main(String[] args) {
         Edges e = new Edges("EdgesTermsTest");
+        atMost512Calls(e);
+        runningOneAtMost(e);
+        theNextOne(e);
         whenNobodyRuns(e);
         aGreaterPriority(e);
         theFrontOfItsRow(e);
@@ -20,6 +23,58 @@ public final class EdgesTermsTest {
         aPointerForEachPlace(e);
         alertedWhenTheLevelIs0(e);
         e.end();
+    }
+
+    private static void atMost512Calls(Edges e) {
+        e.sentence("An object is used for at most 512 calls after it has been made");
+        ExecutiveDesk x = new ExecutiveDesk();
+        for (int call = 1; call < 512; call++) {
+            x.tick(9);
+        }
+        e.due("the last one", 9 * 511 + 1, x.tick(1));
+        ExecutiveDesk y = Checks.desk(3);
+        y.tick(1);
+        for (int call = 4; call < 512; call += 2) {
+            y.create(3, call % 10, -1);
+            y.close(0);
+        }
+        e.due("the last one, behind many objects", 0, y.count(5));
+    }
+
+    private static void runningOneAtMost(Edges e) {
+        e.sentence("each is RUNNING (one at most), READY, WAITS, or has ENDED");
+        ExecutiveDesk x = Checks.desk(1, 1, 2, 2, 3, 3, 4, 4);
+        x.create(0, 0, -1);
+        for (int n = 0; n < 24; n++) {
+            if (n % 3 == 0) {
+                x.tick(3);
+            } else if (n % 3 == 1) {
+                x.await(0, -1, -1, 0, 7);
+            } else {
+                x.exit();
+            }
+            int running = 0;
+            for (int t = 0; t < 8; t++) {
+                if (x.actor(t, 0) == 0) {
+                    running++;
+                    e.due("it is the one that is told", t, x.count(0));
+                }
+            }
+            e.due("behind call " + n, x.count(0) == -1 ? 0 : 1, running);
+        }
+    }
+
+    private static void theNextOne(Edges e) {
+        e.sentence("the NEXT one is the first of the row with the greatest PRIORITY that is not empty");
+        for (int great = 0; great <= 7; great++) {
+            for (int less = 0; less < great; less++) {
+                ExecutiveDesk x = Checks.desk(7, less, great, great, less);
+                int[] order = {0, 2, 3, 1, 4};
+                for (int t : order) {
+                    e.due("priorities " + less + " and " + great, t, x.exit());
+                }
+            }
+        }
     }
 
     private static void whenNobodyRuns(Edges e) {
