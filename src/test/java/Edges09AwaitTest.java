@@ -126,6 +126,7 @@ public final class Edges09AwaitTest {
             e.due(n + ": it runs", 0, x.count(0));
         }
         ExecutiveDesk x = gates(0);
+        x.tick(5);
         x.await(0, -1, -1, 0, -1);
         for (int n = 0; n < 60; n++) {
             x.tick(9);
