@@ -124,7 +124,7 @@ public final class Edges04CreateTest {
     }
 
     private static void whatAMeans(Edges e) {
-        e.sentence("NOTE, GATE: 1 SIGNALED, 0 not");
+        e.sentence("a: NOTE, GATE: 1 SIGNALED, 0 not");
         for (int type = 0; type <= 1; type++) {
             e.due("type " + type + " with 0", 0, first(type, 0).object(0, 4));
             e.due("type " + type + " with 1", 1, first(type, 1).object(0, 4));
@@ -180,7 +180,7 @@ public final class Edges04CreateTest {
     }
 
     private static void refusedIfNameIsNotFromMinus1To15(Edges e) {
-        e.sentence("REFUSED if .. name not -1..15 (-1: none)");
+        e.sentence("REFUSED if .. or name not -1..15 (-1: none)");
         e.inside("name", -1, 15, () -> Checks.desk(0), (x, name) -> x.create(0, 0, name), name -> 0);
         e.inside("the name it has:", -1, 15, () -> Checks.desk(0), (x, name) -> x.create(0, 0, name) + x.object(0, 1), name -> name);
         e.outside("name", -1, 15, () -> Checks.desk(0), (x, name) -> x.create(0, 0, name));
@@ -221,7 +221,7 @@ public final class Edges04CreateTest {
     }
 
     private static void fullIfNoHandleIsFree(Edges e) {
-        e.sentence("FULL if no HANDLE .. is free");
+        e.sentence("FULL if no HANDLE or no OBJECT is free");
         e.taken("the last one", 7, () -> withHandles(7), x -> x.create(0, 0, -1));
         e.refused("none", ExecutiveDesk.FULL, () -> withHandles(8), x -> x.create(0, 0, -1));
         e.refused("none, with a new name", ExecutiveDesk.FULL, () -> withHandles(8), x -> x.create(5, 7, 15));
@@ -241,7 +241,7 @@ public final class Edges04CreateTest {
     }
 
     private static void fullIfNoObjectIsFree(Edges e) {
-        e.sentence("FULL if no .. OBJECT is free");
+        e.sentence("FULL if no HANDLE or no OBJECT is free");
         e.taken("the last one", 0, () -> withObjects(15), x -> x.create(0, 0, -1));
         e.refused("none", ExecutiveDesk.FULL, () -> withObjects(16), x -> x.create(0, 0, -1));
         e.refused("one is kept by a transfer alone", ExecutiveDesk.FULL, Edges04CreateTest::sixteenOneWithoutHandles, x -> x.create(0, 0, -1));

@@ -61,7 +61,7 @@ public final class Edges08SetTest {
                 for (int n = 0; n <= 1; n++) {
                     ExecutiveDesk x = first(type, before);
                     String what = "type " + type + " from " + before + " to " + n;
-                    e.sentence("NOTE, GATE, TIMER: 1 if it was SIGNALED, else 0");
+                    e.sentence("The answer: NOTE, GATE, TIMER: 1 if it was SIGNALED, else 0");
                     e.due(what, before, x.set(0, n));
                     e.sentence("NOTE, GATE: n 1: SIGNALED, 0: not");
                     e.due(what, n, x.object(0, 4));
@@ -117,7 +117,7 @@ public final class Edges08SetTest {
             y.set(0, n);
             e.due("set to " + n + " before it was due", n, y.object(0, 5));
         }
-        e.sentence("NOTE, GATE, TIMER: 1 if it was SIGNALED, else 0");
+        e.sentence("The answer: NOTE, GATE, TIMER: 1 if it was SIGNALED, else 0");
         e.inside("not signaled, set to", 0, 99, () -> first(4, 0), (x, n) -> x.set(0, n), n -> 0);
         e.inside("signaled, set to", 0, 99, Edges08SetTest::signaledTimer, (x, n) -> x.set(0, n), n -> 1);
         ExecutiveDesk x = first(4, 0);
@@ -211,7 +211,7 @@ public final class Edges08SetTest {
     }
 
     private static void refusedIfNIsNotAsSaid(Edges e) {
-        e.sentence("REFUSED if .. n not as said");
+        e.sentence("REFUSED if .. or n not as said");
         e.outside("a note:", 0, 1, () -> first(0, 0), (x, n) -> x.set(0, n));
         e.outside("a note that is signaled:", 0, 1, () -> first(0, 1), (x, n) -> x.set(0, n));
         e.outside("a gate:", 0, 1, () -> first(1, 0), (x, n) -> x.set(0, n));

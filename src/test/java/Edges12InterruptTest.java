@@ -81,7 +81,7 @@ public final class Edges12InterruptTest {
     }
 
     private static void theFirstOfItsRow(Edges e) {
-        e.sentence("the first TRANSFER of its row is FINISHED");
+        e.sentence("OBJECT o, a DEVICE, is interrupted: the first TRANSFER of its row is FINISHED, well or not");
         for (int n = 1; n <= 8; n++) {
             ExecutiveDesk x = withTransfers(0, n);
             for (int i = 0; i < n; i++) {

@@ -161,7 +161,7 @@ public final class Edges13TransferTest {
     }
 
     private static void changeIsNeeded(Edges e) {
-        e.sentence("with an OBJECT to set, a NOTE or GATE (CHANGE; -1: none)");
+        e.sentence("with an OBJECT to set, a NOTE or GATE (CHANGE; -1: none): its number");
         for (int n = 1; n <= 7; n++) {
             int rights = n;
             ExecutiveDesk x = device(0);

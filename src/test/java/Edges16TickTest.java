@@ -193,7 +193,7 @@ public final class Edges16TickTest {
     }
 
     private static void ifAnotherOneOfItsPriorityIsReady(Edges e) {
-        e.sentence("if another one of its PRIORITY is READY, it goes to the back of its row, and the NEXT one RUNS");
+        e.sentence("and, if another one of its PRIORITY is READY, it goes to the back of its row, and the NEXT one RUNS");
         ExecutiveDesk x = Checks.desk(3, 2);
         x.tick(3);
         e.due("one of the next less priority", 0, x.count(0));

@@ -46,7 +46,7 @@ public final class Edges17ActorTest {
     }
 
     private static void howItStands(Edges e) {
-        e.sentence("0: 0 RUNNING, 1 READY, 2 WAITS, 3 ENDED");
+        e.sentence("Of THREAD t what 0: 0 RUNNING, 1 READY, 2 WAITS, 3 ENDED");
         ExecutiveDesk x = Checks.desk(4, 3, 2, 1);
         x.create(0, 0, -1);
         x.exit();

@@ -66,7 +66,7 @@ public final class Edges18ObjectTest {
     }
 
     private static void itsType(Edges e) {
-        e.sentence("what 0: its TYPE");
+        e.sentence("Of OBJECT o what 0: its TYPE");
         e.each("type", 0, 5, type -> first(type, 0).object(0, 0), type -> type);
     }
 

@@ -61,7 +61,7 @@ public final class Edges19IoTest {
     }
 
     private static void howItStands(Edges e) {
-        e.sentence("what 0: how it stands (PENDING .. CANCELLED)");
+        e.sentence("Of TRANSFER i what 0: how it stands (PENDING .. CANCELLED)");
         e.due("PENDING", 0, withTransfers(0, 1).io(0, 0));
         e.due("WELL", 1, interrupted(0, 1, true).io(0, 0));
         ExecutiveDesk x = withTransfers(1, 0);
